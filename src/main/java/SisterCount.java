@@ -650,10 +650,7 @@ public final class SisterCount {
 
     public int by(int slot, int n) {
         int told = loadTold(slot);
-        if (told < 0) {
-            return told;
-        }
-        return n < 0 || n > told ? 0 : joiner.waysBy(n);
+        return told < 0 ? told : joiner.waysBy(n);
     }
 
     public int likely(int slot, int what) {

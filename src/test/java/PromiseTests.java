@@ -79,8 +79,9 @@ public final class PromiseTests {
     private static void tape() {
         check.about("promises 1, 2, 3");
         SisterCount x = new SisterCount();
-        due("count(7)", x.count(7), 0);
-        due("count(6)", x.count(6), 0);
+        for (int what = 0; what < 10; what++) {
+            due("count(" + what + ") of a new object", x.count(what), 0);
+        }
         due("feed", x.feed(bytes("town"), bytes(" sch"), bytes("ool "), bytes("5 to"), bytes(" 9; ")), 20);
         due("count(7)", x.count(7), 20);
         due("town", x.town(), 1);
@@ -389,6 +390,9 @@ public final class PromiseTests {
         due("best(1)", x.best(1), 4);
         due("best(2)", x.best(2), -2);
         due("best(-1)", x.best(-1), -2);
+        SisterCount w = Check.of("town school 30 to 30;house;girl 0;house;girl 0;house;girl 30;");
+        due("best at 30", w.best(0), 2);
+        due("best at 30", w.best(1), 30);
         due("best(0) later", y.best(0), 1);
         due("best(1) later", y.best(1), 0);
         check.about("promise 19");
@@ -567,6 +571,9 @@ public final class PromiseTests {
         due("joined(0, 0, 0)", x.joined(0, 0, 0), -2);
         due("joined(0, 0, 3)", x.joined(0, 0, 3), -2);
         due("joined(0, -1, 0)", x.joined(0, -1, 0), -2);
+        due("joined(0, 0, -1)", x.joined(0, 0, -1), -2);
+        due("joined(0, 3, 0)", x.joined(0, 3, 0), -2);
+        due("joined(0, low, high)", x.joined(0, LOW, HIGH), -2);
         // The other two girls: apart (then the boy has four places), together (three).
         due("joined(1, 0, 1)", x.joined(1, 0, 1), 4 + 3);
         // With the boy: 1 of four houses, 6 of three, 3 of two, always one place.
@@ -663,6 +670,9 @@ public final class PromiseTests {
             Check.putRow(x, 1, 3, 0, 0, 3, three[0], three[1], three[2]);
             due("no such number", x.wrong(1), -2);
             due("no such number", x.bold(1), -2);
+            Check.putRow(x, 1, 3, three[0], three[1], three[2], 0, 0, 3);
+            due("no such number at first", x.wrong(1), -2);
+            due("no such number at first", x.bold(1), -2);
         }
         x.row(1, 0, 4);
         due("not three each", x.wrong(1), -2);
@@ -988,7 +998,17 @@ public final class PromiseTests {
         due("panel(1, 3, 0)", x.panel(1, 3, 0), -2);
         due("panel(1, 0, 2)", x.panel(1, 0, 2), -2);
         due("panel(9, 0, 2)", x.panel(9, 0, 2), -2);
+        // Twenty girls: six by six tell of six, two of two. Three of the former and one of the latter tell of 20.
+        SisterCount z = Check.of("town school 0 to 9;" + ("house;" + "girl 3;".repeat(6)).repeat(3) + "house;girl 0;girl 9;");
+        due("panel(3, 0, 0)", z.panel(3, 0, 0), 2);
+        due("panel(3, 0, 1)", z.panel(3, 0, 1), 7);
+        due("panel(4, 2, 0)", z.panel(4, 2, 0), 0);
+        due("panel(4, 2, 1)", z.panel(4, 2, 1), 7 + (1 << 18));
+        due("panel(20, 0, 0)", z.panel(20, 0, 0), 112 - 20);
+        due("panel(20, 0, 1)", z.panel(20, 0, 1), (1 << 20) - 1);
+        due("panel(18, 0, 0)", z.panel(18, 0, 0), 100 - 20);
         check.about("promise 65");
+        due("just(0)", z.just(0), 4);
         due("just(0)", x.just(0), 2);
         due("just(1)", x.just(1), 3);
         due("just(3)", x.just(3), -2);
