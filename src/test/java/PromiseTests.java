@@ -186,6 +186,12 @@ public final class PromiseTests {
         fault(BARE + "half;", 1, 19);
         fault(BARE + "hous;", 1, 19);
         fault(BARE + "House;", 1, 19);
+        fault(BARE + "louse;", 1, 19);
+        fault(BARE + "housez;", 1, 19);
+        fault(BARE + "house{", 1, 24);
+        fault(BARE + "house`", 1, 24);
+        fault("town school 5/to 9;", 1, 13);
+        fault("town school 5:to 9;", 1, 13);
         fault(BARE + "house,", 1, 24);
         fault(BARE + "house\t;", 1, 24);
         fault(BARE + "house house;", 1, 25);
@@ -460,6 +466,8 @@ public final class PromiseTests {
         due("crowd(0)", y.crowd(0), 3);
         due("crowd(1)", y.crowd(1), 1);
         due("no questions", Check.of(BARE).next(), -1);
+        String twenty = "town school 0 to 9;" + ("house;" + "girl 3;".repeat(5)).repeat(4) + "ask all;ask sisters;";
+        due("all in one crowd", Check.of(twenty).next(), 0);
         y.years(9);
         due("kinds without scholars", y.kinds(0), 0);
         due("crowd without scholars", y.crowd(0), 0);
