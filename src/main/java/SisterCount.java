@@ -86,11 +86,11 @@ public final class SisterCount {
 
     public int town() {
         reader.readInto(draft);
-        // A text with a fault goes too: the next one starts on an empty tape.
-        tape.length = 0;
+        // The tape stays behind a fault, so that it can be cut and mended.
         if (reader.fault != 0) {
             return FAULTY;
         }
+        tape.length = 0;
         now.copyFrom(draft);
         return now.lines;
     }

@@ -128,7 +128,12 @@ public final class PromiseTests {
         due("years stay", x.count(8), 3);
         due("lines stay", x.count(6), 20);
         due("ages stay", x.child(0, 2), 17);
-        due("tape with a fault is empty", x.count(7), 0);
+        due("the tape stays", x.count(7), 18);
+        due("with its fault", x.town(), -4);
+        due("the tape stays", x.count(7), 18);
+        Check.feedBehind(x, 18, ";house;");
+        due("mended behind it", x.town(), 2);
+        due("tape is empty", x.count(7), 0);
         due("town again", lines(x, TOWN), 20);
         due("no years", x.count(8), 0);
         due("ages anew", x.child(0, 2), 14);
@@ -230,7 +235,8 @@ public final class PromiseTests {
         due("a fault", x.town(), -4);
         due("fault(2)", x.fault(2), -1);
         due("fault(-1)", x.fault(-1), -1);
-        due("town on an empty tape", x.town(), 0);
+        due("cut at the fault", x.end(19), 19);
+        due("town without the fault", x.town(), 1);
         due("fault(0) is of the latest", x.fault(0), 0);
         due("fault(1) is of the latest", x.fault(1), -1);
     }
