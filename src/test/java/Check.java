@@ -19,6 +19,10 @@ final class Check {
         }
     }
 
+    int asked() {
+        return asked;
+    }
+
     void isTrue(String what, boolean holds) {
         due(what, holds ? 1 : 0, 1);
     }
