@@ -55,6 +55,7 @@ final class AnswerBoundaries extends Sentences {
         due(town, -1, "slips(1)");
         due(town + "slip 0 0 1;slip 0 1 1;", 0, "slips(0)");
         due(town + "slip 0 0 1;slip 0 1 1;", -1, "slips(1)");
+        due(town.replace("girl 4", "girl 5") + "slip 3 0 1;slip 0 1 1;", 0, "slips(1)");
         due(town + "slip 3 0 20;slip 2 1 1;", 2, "slips(0)", "slips(1)");
         due(town + "slip 2 0 1;slip 3 0 1;slip 3 1 1;", 3, "slips(0)", "slips(1)");
         due(town + "slip 3 0 1;slip 3 0 2;slip 2 0 1;", 2, "slips(0)", "slips(1)");
@@ -267,6 +268,7 @@ final class AnswerBoundaries extends Sentences {
             due(town, hidden[0][ask], "hidden(0, " + ask + ")", "hidden(1, " + ask + ")");
             due(town, hidden[1][ask], "hidden(6, " + ask + ")");
         }
+        due(BARE + "house;girl 4;girl 5;ask all;", 1, "hidden(1, 0)");
         due(TWENTY, 0, "hidden(0, 0)", "hidden(19, 1)");
         says("38", "-2: there are none such; -5: it is none.");
         refuses(TOWN, -2, "hidden(9, 0)", "hidden(-1, 0)", "hidden(0, 3)", "hidden(0, -1)", "hidden(low, high)",
@@ -290,6 +292,7 @@ final class AnswerBoundaries extends Sentences {
         due(town + "ask all;slip 2 0 2;", 1, "fits(2)");
         due(town + "ask brothers;slip 2 0 2;", -1, "fits(2)");
         due(BARE + "house;boy 3;house;boy 1;girl 5;", 1, "fits(2)");
+        due(BARE + "house;girl 5;girl 6;ask all;", 0, "fits(0)", "fits(1)");
         due(FULL, -1, "fits(19)");
         says("55", "-2: there is none such; -5: it is no SCHOLAR.");
         refuses(TOWN, -2, "fits(9)", "fits(-1)", "fits(low)", "fits(high)");

@@ -146,6 +146,12 @@ final class HouseBoundaries extends Sentences {
         x = Check.of(TWENTY);
         fraction(x, 4, 1, "seems(0)");
         fraction(x, 4, 1, "weighed(0)");
+        // From one scholar of a house to six of one, of whom the last says 1.
+        for (int n = 1; n <= 6; n++) {
+            x = Check.of(BARE + "house;" + "girl 6;".repeat(n) + "house;girl 6;ask brothers;slip " + (n - 1) + " 0 1;");
+            fraction(x, 1, 2 * (n + 1), "seems(0)");
+            fraction(x, 1, 4 * n, "weighed(0)");
+        }
     }
 
     private void child() {
@@ -411,6 +417,7 @@ final class HouseBoundaries extends Sentences {
         for (int n = 0; n < 5; n++) {
             due(town, due[n], "later(" + n + ")");
         }
+        due("town school 0 to 0;house;girl 0;girl 30;", 1, "later(0)", "later(30)");
         SisterCount x = Check.of("town school 30 to 30;house;girl 30;boy 29;");
         x.years(30);
         due(x, 1, "later(30)");
@@ -485,6 +492,7 @@ final class HouseBoundaries extends Sentences {
         String town = BARE + "house;girl 30 dead;boy 4;girl 0;house;boy 4;boy 3;girl 0 away;";
         due(town, 2, "eldest(0)");
         due(town, 1, "eldest(1)", "eldest(2)");
+        due(BARE + "house;girl 5;girl 5;boy 5;", 0, "eldest(0)", "eldest(2)");
         due(BARE, -1, "eldest(0)", "eldest(1)", "eldest(2)");
         due(BARE + "house;girl 30 dead;boy 0;", -1, "eldest(0)");
         due(BARE + "house;girl 30 dead;boy 0;", 1, "eldest(1)", "eldest(2)");

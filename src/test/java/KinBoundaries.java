@@ -289,6 +289,7 @@ final class KinBoundaries extends Sentences {
         due(BARE + "house;girl 5;house;girl 5 half;girl 3;house;girl 5 half;girl 3;", 1, "off(0)", "off(2)");
         due(BARE + "house;girl 4 half;girl 3;house;girl 5;", -1, "off(0)", "off(1)", "off(2)");
         due(BARE, -1, "off(0)");
+        due(BARE + "house;girl 5 half;girl 3;house;girl 5 half;girl 3;", 0, "off(0)", "off(2)");
         says("50", "-2 likewise.");
         refuses(TOWN, -2, "off(3)", "off(-1)", "off(low)", "off(high)");
         refusesWithoutTown(-2, "off(0)", "off(2)");

@@ -69,6 +69,11 @@ abstract class Sentences {
         check.due(call, call(x, call), want);
     }
 
+    /** The first object's answer is due from the other, too. */
+    final void sameAnswer(SisterCount first, SisterCount other, String call) {
+        check.due(call, call(other, call), call(first, call));
+    }
+
     final void holds(String what, boolean isSo) {
         check.isTrue(what, isSo);
     }

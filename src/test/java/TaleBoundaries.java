@@ -85,6 +85,7 @@ final class TaleBoundaries extends Sentences {
         loaves(BARE + "house;girl 5;girl 4;girl 4;house;girl 5;house;boy 1;house;", 2, 3);
         loaves(BARE + "house;girl 4;house;girl 4;girl 5 dead;house;", 0, 2);
         loaves(BARE + "house;girl 5;house;" + "boy 1 dead;".repeat(6), 1, 2);
+        loaves(BARE + "house;boy 5;boy 5;girl 5;house;boy 5;", 4, 2);
         loaves(TWENTY, 20, 4);
         loaves(BARE + "house;boy 1;".repeat(8), 0, 8);
         says("39", "-2: there is no such what, no TOWN; -5: there are no CHILDREN.");

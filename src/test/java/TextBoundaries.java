@@ -4,6 +4,19 @@ final class TextBoundaries extends Sentences {
     private static final String TWENTY_CHILDREN = BARE + ("house;" + "boy 1;".repeat(5)).repeat(4);
     private static final String SIX_QUESTIONS = BARE + "ask all;".repeat(6);
     private static final String SIX_OF_A_HOUSE = BARE + "house;" + "girl 1;".repeat(6);
+    private static final String[] ASKED = {"child(1, 2)", "child(2, 2)", "child(9, 0)", "house(0, 0)", "house(0, 1)",
+        "house(0, 3)", "house(1, 4)", "house(2, 0)", "scholars()", "truth(0, 0)", "truth(1, 0)", "answer(0, 0)",
+        "answer(1, 0)", "tale(0)", "tale(1)", "tale(2)", "are(0)", "are(1)", "are(2)", "seems(0, 0)", "weighed(0, 0)",
+        "mean(2, 0)", "mean(2, 1)", "unseen()", "comes(0)", "best(0)", "best(1)", "years(0)", "years(30)", "slips(0)",
+        "slips(1)", "kinds(0)", "crowd(0)", "next()", "tells(0)", "tells(1)", "fewest(0)", "fewest(1)", "like(0)",
+        "like(1)", "most(0)", "most(1)", "hidden(0, 0)", "hidden(1, 0)", "bread(0)", "bread(1)", "bread(2)",
+        "marriages(99)", "between(0, 1, 99)", "suits(0, 99)", "suits(1, 99)", "sought(0, 99)", "sought(1, 99)",
+        "heir(0, 0, 0)", "heir(0, 1, 1)", "heir(0, 2, 2)", "place(0, 0)", "place(1, 1)", "quarrel(0, 1)", "quarrel(0, 2)",
+        "beds(0, 99)", "squeeze(0, 1)", "census(0)", "census(2)", "off(0)", "off(2)", "twins(0)", "age(0, 0)", "later(0)",
+        "later(30)", "school()", "fits(0)", "fits(1)", "enough()", "share(0, 1)", "heavy()", "only()", "eldest(0)",
+        "eldest(1)", "eldest(2)", "spread(0)", "clash(0)", "less(0, 2)", "panel(0, 2, 0)", "panel(1, 2, 1)",
+        "panel(4, 2, 1)", "panel(5, 2, 1)", "just(2)", "changed(0, 1, 2)", "drawn(7, 70, 0)", "drawn(7, 70, 2)",
+        "seen(7, 20, 50, 0)", "count(0)", "count(5)", "count(8)"};
     private static final int QUESTION_MARKS = 0x3f3f3f3f;
 
     TextBoundaries(Document document, Check check) {
@@ -532,8 +545,8 @@ final class TextBoundaries extends Sentences {
         due(x, 5, "town()");
         due(x, 2, "answer(0, 0)");
         due(x, 0, "child(0, 3)");
-        String slips = BARE + "house;boy 5;ask all;" + "slip 0 0 1;".repeat(105);
-        reads(slips, 109);
+        reads(BARE + "house;boy 5;ask all;" + "slip 0 0 1;".repeat(105), 109);
+        nothingIsLeft();
         says("4", "(0: there is none then);");
         for (String text : new String[] {"", " ", "\n".repeat(1200)}) {
             x = Check.of(FULL);
@@ -558,6 +571,21 @@ final class TextBoundaries extends Sentences {
         x.years(7);
         due(x, 0, "town()");
         due(x, 0, "count(8)");
+    }
+
+    /** A town answers as on a new object, whatever greater town it takes the place of. */
+    private void nothingIsLeft() {
+        String greater = FULL.replace(" half", "").replace(" dead", "").replace(" away", "") + "slip 3 2 7;";
+        for (String town : new String[] {TOWN, "town school 0 to 30;house;girl 0;", BARE + "house;ask all;",
+            "town school 0 to 0;house;boy 30;house;girl 30 half;ask all;slip 1 0 1;"}) {
+            for (String call : ASKED) {
+                SisterCount behind = Check.of(greater);
+                behind.years(30);
+                Check.feedText(behind, town);
+                behind.town();
+                sameAnswer(Check.of(town), behind, call);
+            }
+        }
     }
 
     private void townWithFault() {
