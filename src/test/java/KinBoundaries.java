@@ -67,11 +67,29 @@ final class KinBoundaries extends Sentences {
         due(BARE + "house;girl 18;girl 16;house;boy 18;boy 20;", 2, "marriages(2)");
         due(BARE + "house;girl 16;girl 18;girl 20;house;boy 18;boy 20;boy 22;", 3, "marriages(2)");
         due(BARE + "house;girl 20;girl 18;girl 16;house;boy 18;boy 20;boy 22;", 3, "marriages(2)");
+        due(BARE + "house;boy 16;house;girl 16;", 1, "marriages(0)");
+        inEachOrder("", 16, 18, 20, 22);
         String six = BARE + "house;" + "girl 20;".repeat(6) + "house;" + "boy 20;".repeat(6);
         due(six, 6, "marriages(0)");
         due(six + "house;girl 20;house;boy 20;", 7, "marriages(0)");
         String ten = BARE + "house;girl 16;boy 16;".repeat(8) + "girl 16;boy 16;girl 16;boy 16;";
         due(ten, 10, "marriages(0)");
+    }
+
+    /** Girls of four ages for boys two years older, who suit in just one way, told in each order. */
+    private void inEachOrder(String told, int... ages) {
+        if (ages.length == 0) {
+            due(BARE + "house;" + told + "house;boy 18;boy 20;boy 22;boy 24;", 4, "marriages(2)");
+            due(BARE + "house;boy 24;boy 20;boy 18;boy 22;house;" + told, 4, "marriages(2)");
+            due(BARE + "house;boy 22;house;boy 18;house;" + told + "house;boy 20;house;boy 24;", 4, "marriages(2)");
+            due(BARE + "house;" + told + "house;boy 18;boy 20;boy 22;boy 25;", 3, "marriages(2)");
+        }
+        for (int i = 0; i < ages.length; i++) {
+            int[] rest = new int[ages.length - 1];
+            System.arraycopy(ages, 0, rest, 0, i);
+            System.arraycopy(ages, i + 1, rest, i, rest.length - i);
+            inEachOrder(told + "girl " + ages[i] + ";", rest);
+        }
     }
 
     private void order(String town, int law, int... heirs) {

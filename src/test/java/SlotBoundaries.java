@@ -31,7 +31,7 @@ final class SlotBoundaries extends Sentences {
             x.row(slot, 0, 60);
             due(x, slot + 1, "count(9)");
         }
-        SisterCount emptied = Check.of(FULL);
+        SisterCount emptied = Check.of(TOWN);
         emptied.years(9);
         emptied.town();
         for (SisterCount none : new SisterCount[] {new SisterCount(), emptied}) {
@@ -145,6 +145,8 @@ final class SlotBoundaries extends Sentences {
         due(x, 1, "daughters(2, 1)");
         due(x, 0, "row(2, 3, 9)");
         due(x, 3, "daughters(2, 1)");
+        due(x, 3, "least(2)");
+        due(x, 1, "joinings(2)");
         says("72", "-2: there is no such SLOT or WIDTH (0 .. 3), or n is above 60;");
         refuses(BARE, -2, "row(4, 0, 1)", "row(-1, 0, 1)", "row(low, 0, 1)", "row(high, 0, 1)", "row(0, 4, 1)", "row(0, -1, 1)",
             "row(0, low, 1)", "row(0, high, 1)", "row(0, 0, 61)", "row(0, 0, high)", "row(4, 0, -1)", "row(0, 4, -1)");

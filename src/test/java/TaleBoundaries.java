@@ -149,6 +149,16 @@ final class TaleBoundaries extends Sentences {
         due(both, 1 | 1 << 4 | 1 << 7, "panel(3, 1, 1)");
         due(both, 1, "panel(4, 1, 0)", "panel(2, 1, 0)");
         due(both, 1 | 1 << 7, "panel(2, 1, 1)");
+        // Call by call on one object, of sorts and sizes by turns, and when nobody is at school.
+        SisterCount x = Check.of(both);
+        due(x, 0, "panel(3, 1, 0)");
+        due(x, 2, "just(0)");
+        due(x, 1 | 1 << 4 | 1 << 7, "panel(3, 1, 1)");
+        due(x, 4, "panel(0, 0, 0)");
+        due(x, 1, "panel(4, 1, 0)");
+        x.years(9);
+        due(x, -1, "panel(1, 1, 0)");
+        due(x, 7, "panel(0, 1, 0)");
         says("64", "NONE: there are not so many SCHOLARS; -2: there are none such, no TOWN.");
         refuses(TOWN, -1, "panel(5, 0, 0)", "panel(5, 2, 1)", "panel(20, 0, 0)", "panel(20, 0, 1)");
         due(TOWN, 23, "panel(4, 0, 1)");
@@ -212,6 +222,7 @@ final class TaleBoundaries extends Sentences {
             due(TWENTY, 0, "drawn(" + seed + ", 0, 0)", "drawn(" + seed + ", 0, 1)", "drawn(" + seed + ", 0, 2)");
             due(BARE, 0, "drawn(" + seed + ", 100, 0)", "drawn(" + seed + ", 100, 1)", "drawn(" + seed + ", 100, 2)");
         }
+        due(BARE + "house;boy 5;girl 5;boy 3;house;boy 6;", 7, "drawn(0, 100, 2)");
         // A half one alone: 3 by 2, cut.
         due(BARE + "house;girl 5 half;boy 3;", 1, "drawn(0, 100, 2)");
         says("67", "-2: there are none such, no TOWN.");

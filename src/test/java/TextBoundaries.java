@@ -33,6 +33,7 @@ final class TextBoundaries extends Sentences {
         slips();
         numbering();
         tokens();
+        letters();
         longestTokens();
         firstFault();
         misplacedTokens();
@@ -303,11 +304,21 @@ final class TextBoundaries extends Sentences {
                 faulty(1, BARE + "^" + c);
             }
         }
-        for (char last = 'a'; last <= 'z'; last++) {
-            if (last == 'y') {
-                reads(BARE + "house;bo" + last + " 5;", 3);
-            } else {
-                faulty(1, BARE + "house;^bo" + last + " 5;");
+    }
+
+    /** A text with every word there is: no letter of any can be another one, or go. */
+    private void letters() {
+        String text = "town school 5 to 9;house;girl 5 half dead away;boy 5;ask sisters older living whole;"
+            + "ask brothers younger;ask all;slip 0 0 1;";
+        reads(text, 8);
+        int word = 0;
+        for (int i = 0; i < text.length(); i++) {
+            word = i > 0 && isLetter(text.charAt(i - 1)) ? word : i;
+            if (isLetter(text.charAt(i))) {
+                String marked = text.substring(0, word) + "^" + text.substring(word, i);
+                faulty(1, marked + "q" + text.substring(i + 1));
+                faulty(1, marked + text.substring(i + 1));
+                faulty(1, marked + text.charAt(i) + text.substring(i));
             }
         }
     }
@@ -549,7 +560,7 @@ final class TextBoundaries extends Sentences {
         nothingIsLeft();
         says("4", "(0: there is none then);");
         for (String text : new String[] {"", " ", "\n".repeat(1200)}) {
-            x = Check.of(FULL);
+            x = Check.of(TOWN);
             Check.feedText(x, text);
             due(x, 0, "town()");
             due(x, -2, "scholars()");

@@ -166,6 +166,23 @@ final class ToldBoundaries extends Sentences {
         refusesLike("joinings(%d)");
         due(row(0), 1, "joinings(0)");
         due(row(0, 0, 0, 0), 1, "joinings(0)");
+        // Of a row of no numbers just behind one of some.
+        SisterCount x = times(3, 0, 2, 0);
+        x.row(1, 0, 0);
+        due(x, 5, "joinings(0)");
+        due(x, 1, "joinings(1)");
+        due(x, 5, "joinings(0)");
+        due(x, 0, "greatest(1)");
+        due(x, 0, "by(1, 1)");
+        due(x, 1, "by(1, 0)");
+        due(x, 5, "joinings(0)");
+        fraction(x, 0, 1, "likely(1)");
+        due(x, 5, "joinings(0)");
+        due(x, 0, "least(1)");
+        due(x, 9, "daughters(0, 1)");
+        due(x, 0, "daughters(1, 1)");
+        due(x, 1, "sorts(0)");
+        due(x, 0, "sorts(1)");
         due(times(10, 0, 0, 0), 1, "joinings(0)");
     }
 
