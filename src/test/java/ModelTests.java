@@ -715,6 +715,50 @@ public final class ModelTests {
         }
     }
 
+    /** The most pairs, by all sets of boys whom the girls so far can have. */
+    private static int mostPairs(Town t, List<Child> who, int gap) {
+        List<Child> boys = who.stream().filter(c -> c.sex == 1).toList();
+        Set<Integer> reached = new HashSet<>(Set.of(0));
+        for (Child girl : who) {
+            Set<Integer> further = new HashSet<>(reached);
+            for (int b = 0; b < boys.size(); b++) {
+                if (t.suits(girl, boys.get(b), gap)) {
+                    for (int set : reached) {
+                        further.add(set | 1 << b);
+                    }
+                }
+            }
+            reached = girl.sex == 0 ? further : reached;
+        }
+        return reached.stream().mapToInt(Integer::bitCount).max().orElse(0);
+    }
+
+    /** Twenty grown ones, so that those who marry can be moved in long chains. */
+    private static void grownTowns() {
+        for (int seed = 0; seed < 60; seed++) {
+            check.about("grown town " + seed);
+            Random r = new Random(seed);
+            int ages = 3 + r.nextInt(13);
+            StringBuilder text = new StringBuilder("town school 5 to 9;");
+            for (int c = 0; c < 20; c++) {
+                text.append(c % 3 == 0 ? "house;" : "").append(r.nextBoolean() ? "girl " : "boy ");
+                text.append(15 + r.nextInt(ages)).append(r.nextInt(12) == 0 ? " dead;" : ";");
+            }
+            Town t = new Town(text.toString());
+            SisterCount x = Check.of(text.toString());
+            for (int gap : new int[] {0, 1, 2, 4, 99}) {
+                int most = mostPairs(t, t.children, gap);
+                check.due("marriages(" + gap + ")", x.marriages(gap), most);
+                for (Child c : t.children) {
+                    List<Child> others = new ArrayList<>(t.children);
+                    others.remove(c);
+                    int without = mostPairs(t, others, gap);
+                    check.due("sought(" + c.number + ", " + gap + ")", x.sought(c.number, gap), without < most ? 1 : 0);
+                }
+            }
+        }
+    }
+
     private static void compareDraws(SisterCount x, Town t, Random r) {
         for (int i = 0; i < 5; i++) {
             int seed = i == 0 ? 2_000_000_000 : r.nextInt(2_000_000_000);
@@ -929,6 +973,7 @@ public final class ModelTests {
 
     public static void main(String[] args) {
         towns();
+        grownTowns();
         joinings();
         texts();
         check.finish("ModelTests");

@@ -122,7 +122,7 @@ abstract class Sentences {
         return x;
     }
 
-    /** What can be asked of an object without changing it, in some sixty calls. */
+    /** What can be asked of an object without changing it, in some fifty calls. */
     private static String state(SisterCount x) {
         StringBuilder text = new StringBuilder();
         for (int what = 0; what < 10; what++) {

@@ -586,15 +586,18 @@ final class TextBoundaries extends Sentences {
 
     /** A town answers as on a new object, whatever greater town it takes the place of. */
     private void nothingIsLeft() {
-        String greater = FULL.replace(" half", "").replace(" dead", "").replace(" away", "") + "slip 3 2 7;";
-        for (String town : new String[] {TOWN, "town school 0 to 30;house;girl 0;", BARE + "house;ask all;",
-            "town school 0 to 0;house;boy 30;house;girl 30 half;ask all;slip 1 0 1;"}) {
-            for (String call : ASKED) {
-                SisterCount behind = Check.of(greater);
-                behind.years(30);
-                Check.feedText(behind, town);
-                behind.town();
-                sameAnswer(Check.of(town), behind, call);
+        String young = FULL.replace(" half", "").replace(" dead", "").replace(" away", "") + "slip 3 2 7;";
+        String grown = BARE + "house;boy 20;girl 20;".repeat(8) + "boy 20;girl 20;boy 20;girl 20;";
+        for (String greater : new String[] {young, grown}) {
+            for (String town : new String[] {TOWN, "town school 0 to 30;house;girl 0;", BARE + "house;ask all;",
+                "town school 0 to 0;house;boy 30;house;girl 30 half;ask all;slip 1 0 1;"}) {
+                for (String call : ASKED) {
+                    SisterCount behind = Check.of(greater);
+                    behind.years(30);
+                    Check.feedText(behind, town);
+                    behind.town();
+                    sameAnswer(Check.of(town), behind, call);
+                }
             }
         }
     }
